@@ -478,10 +478,6 @@ public final class EightParts {
     }
 
     public int table(int i, int k) {
-        int many = lists.manyOf(1);
-        if (i < 0 || i >= many || k < 0 || k >= many) {
-            return NONE;
-        }
         return units.multiplyAt(i, k);
     }
 
@@ -879,14 +875,18 @@ public final class EightParts {
             return order == 0 ? 1 : WORDS;
         }
 
-        static int wordOf(int order, int k) {
-            return exchange(CODE[k & 15], order);
+        static int exchange(int set, int s) {
+            boolean unlike = (set & 1) != (set >> s & 1);
+            return unlike ? set ^ (1 | 1 << s) : set;
         }
 
         static boolean mayBeOdd(int order, int set) {
-            int many = manyWords(order);
-            for (int k = 0; k < many; k++) {
-                if (wordOf(order, k) == set) {
+            if (order == 0) {
+                return set == 0;
+            }
+            int exchanged = exchange(set, order);
+            for (int k = 0; k < WORDS; k++) {
+                if (CODE[k] == exchanged) {
                     return true;
                 }
             }
@@ -898,7 +898,7 @@ public final class EightParts {
             int many = manyWords(order);
             int found = 0;
             for (int k = 0; k < many; k++) {
-                int set = wordOf(order, k);
+                int set = exchange(CODE[k], order);
                 if (Integer.bitCount(set) <= 4 && mayBeOdd(other, set)) {
                     found += 16;
                 }
@@ -949,11 +949,11 @@ public final class EightParts {
         }
 
         private int bestWord() {
-            int best = wordOf(held, 0);
+            int best = exchange(CODE[0], held);
             long least = missOf(best);
             int many = manyWords(held);
             for (int k = 1; k < many; k++) {
-                int word = wordOf(held, k);
+                int word = exchange(CODE[k], held);
                 long miss = missOf(word);
                 if (miss < least || miss == least && isListedAhead(word, best)) {
                     best = word;
@@ -979,11 +979,6 @@ public final class EightParts {
                 }
             }
             return false;
-        }
-
-        private static int exchange(int set, int s) {
-            boolean unlike = (set & 1) != (set >> s & 1);
-            return unlike ? set ^ (1 | 1 << s) : set;
         }
     }
 
@@ -1018,21 +1013,32 @@ public final class EightParts {
             if (k < 0 || k >= manyOf(norm)) {
                 return false;
             }
-            int packed = rows[norm][k];
-            for (int i = 0; i < EIGHT; i++) {
-                to[i] = (packed >> 28 - 4 * i & 15) - BIAS;
-            }
+            unpack(to, rows[norm][k]);
             return true;
         }
 
         int find(int[] x) {
             long normBy4 = Parts.normBy4(x);
-            if (normBy4 > 4 * TOP_NORM || !lattice.isWhole(x)) {
+            if (normBy4 > 4 * TOP_NORM || normBy4 % 4 != 0) {
                 return NONE;
             }
             int norm = (int) (normBy4 / 4);
+            return manyOf(norm) > 0 ? search(norm, x) : NONE;
+        }
+
+        // A unit of a list that is filled already, as multiplyAt() sees to it.
+        boolean takeUnit(int[] to, int k) {
+            if (k < 0 || k >= sizes[1]) {
+                return false;
+            }
+            unpack(to, rows[1][k]);
+            return true;
+        }
+
+        // In a list that is filled already.
+        int search(int norm, int[] x) {
             int low = 0;
-            int high = manyOf(norm) - 1;
+            int high = sizes[norm] - 1;
             int wanted = pack(x);
             for (int halving = 0; halving < HALVINGS && low < high; halving++) {
                 int middle = (low + high) / 2;
@@ -1043,6 +1049,12 @@ public final class EightParts {
                 }
             }
             return low == high && rows[norm][low] == wanted ? low : NONE;
+        }
+
+        private static void unpack(int[] to, int packed) {
+            for (int i = 0; i < EIGHT; i++) {
+                to[i] = (packed >> 28 - 4 * i & 15) - BIAS;
+            }
         }
 
         private static int pack(int[] x) {
@@ -1068,7 +1080,7 @@ public final class EightParts {
             Arrays.fill(oddWords, 0);
             int many = Lattice.manyWords(lattice.held);
             for (int k = 0; k < many; k++) {
-                int word = Lattice.wordOf(lattice.held, k);
+                int word = Lattice.exchange(Lattice.CODE[k], lattice.held);
                 for (int i = 0; i < EIGHT; i++) {
                     oddWords[i] |= (word >> i & 1) << k;
                 }
@@ -1137,8 +1149,7 @@ public final class EightParts {
         }
 
         boolean gather(int[][] slots, int bits) {
-            Arrays.fill(isMember, false);
-            gathered = 0;
+            forgetMembers();
             for (int slot = 0; slot < EIGHT; slot++) {
                 if ((bits >> slot & 1) != 0) {
                     if (Parts.normBy4(slots[slot]) != 4) {
@@ -1198,6 +1209,13 @@ public final class EightParts {
             return found;
         }
 
+        private void forgetMembers() {
+            for (int i = 0; i < gathered; i++) {
+                isMember[members[i]] = false;
+            }
+            gathered = 0;
+        }
+
         private void admit(int unit) {
             if (unit >= 0 && unit < MOST_UNITS && gathered < MOST_UNITS && !isMember[unit]) {
                 isMember[unit] = true;
@@ -1206,8 +1224,10 @@ public final class EightParts {
             }
         }
 
+        // Once all units are in, no product can be new.
         private void close() {
-            for (int i = 0; i < gathered && i < MOST_UNITS; i++) {
+            int all = lists.manyOf(1);
+            for (int i = 0; i < gathered && gathered < all; i++) {
                 for (int k = 0; k <= i; k++) {
                     admit(multiplyAt(members[i], members[k]));
                     admit(multiplyAt(members[k], members[i]));
@@ -1250,8 +1270,8 @@ public final class EightParts {
             }
             int at = i * HALF + k;
             if (products[at] == 0) {
-                boolean can = lists.take(x, 1, i) && lists.take(y, 1, k) && reckoner.multiply(x, x, y);
-                products[at] = can ? lists.find(x) + 1 : 0;
+                boolean can = lists.takeUnit(x, i) && lists.takeUnit(y, k) && reckoner.multiply(x, x, y);
+                products[at] = can ? lists.search(1, x) + 1 : 0;
             }
             return products[at] - 1;
         }

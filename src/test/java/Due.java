@@ -13,10 +13,10 @@ final class Due {
         is(call, got ? 1 : 0, want ? 1 : 0);
     }
 
-    /** The doubled parts of a slot, all eight. */
+    /** The doubled parts of a slot, all eight: those that are not given are 0. */
     void parts(String call, EightParts x, int slot, int... want) {
         for (int i = 0; i < 8; i++) {
-            is(call + ": part " + i + " of slot " + slot, x.part(slot, i), want[i]);
+            is(call + ": part " + i + " of slot " + slot, x.part(slot, i), i < want.length ? want[i] : 0);
         }
     }
 

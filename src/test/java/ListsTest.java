@@ -70,10 +70,10 @@ public final class ListsTest {
 
     private static void listedPart() {
         EightParts x = new EightParts();
-        for (int k = 0; k < 40; k++) {
-            x.listed(0, 2, 50 * k);
+        for (int k = 0; k < 25; k++) {
+            x.listed(0, 2, 80 * k);
             for (int part = 0; part < 8; part++) {
-                DUE.is("listedPart(2, " + 50 * k, x.listedPart(2, 50 * k, part), x.part(0, part));
+                DUE.is("listedPart(2, " + 80 * k, x.listedPart(2, 80 * k, part), x.part(0, part));
             }
         }
         DUE.is("listedPart(0, 0, 7)", x.listedPart(0, 0, 7), 0);

@@ -11,7 +11,9 @@ import java.util.Random;
  * slow Model, with all slots held against each other now and then. Arguments: how many runs, the first seed.
  */
 public final class ModelTest {
-    private static final int CALLS = 400;
+    /** What an object answers behind so many calls is free. */
+    private static final int CALLS = 512;
+    private static final int CALLS_TO_HOLD_ALL = 65;
     private static final int UNITS = 0;
     private static final int LISTED = 1;
     private static final int ANY = 2;
@@ -28,7 +30,7 @@ public final class ModelTest {
     }
 
     public static void main(String[] args) throws ReflectiveOperationException {
-        int runs = args.length > 0 ? Integer.parseInt(args[0]) : 60;
+        int runs = args.length > 0 ? Integer.parseInt(args[0]) : 150;
         long first = args.length > 1 ? Long.parseLong(args[1]) : 1;
         List<Method> calls = new ArrayList<>();
         for (Method call : EightParts.class.getDeclaredMethods()) {
@@ -46,8 +48,15 @@ public final class ModelTest {
 
     private void go(List<Method> calls) throws ReflectiveOperationException {
         int temper = random.nextInt(3);
-        for (int k = 0; k < CALLS && agrees; k++) {
-            if (random.nextInt(3) == 0) {
+        goUntil(CALLS / 2, calls, temper);
+        holdAll();
+        goUntil(CALLS - CALLS_TO_HOLD_ALL, calls, temper);
+        holdAll();
+    }
+
+    private void goUntil(int end, List<Method> calls, int temper) throws ReflectiveOperationException {
+        while (agrees && done.size() < end) {
+            if (random.nextInt(5) == 0) {
                 layNumber(temper);
             } else if (random.nextInt(12) == 0) {
                 writeText();
@@ -59,14 +68,11 @@ public final class ModelTest {
                 }
                 both(call, arguments(call));
             }
-            if (k % 20 == 19) {
-                holdAll();
-            }
         }
     }
 
     private void both(Method call, Object[] arguments) throws ReflectiveOperationException {
-        if (!agrees) {
+        if (!agrees || done.size() == CALLS) {
             return;
         }
         Method other = Model.class.getDeclaredMethod(call.getName(), call.getParameterTypes());

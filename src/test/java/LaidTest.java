@@ -4,6 +4,7 @@ public final class LaidTest {
 
     public static void main(String[] args) {
         aNewObject();
+        besideAnother();
         put();
         one();
         listed();
@@ -21,6 +22,27 @@ public final class LaidTest {
         DUE.is("count(3)", x.count(3), 0);
         DUE.is("back(0)", x.back(0), 0);
         DUE.is("NONE", EightParts.NONE, -1);
+    }
+
+    private static void besideAnother() {
+        EightParts x = new EightParts();
+        EightParts other = new EightParts();
+        other.one(0, 3);
+        other.order(0);
+        other.keep();
+        Due.feed(other, "a+1");
+        DUE.is("units beside another object", x.count(1), 240);
+        DUE.is("units of the other one", other.count(1), 16);
+        DUE.is("many(2) beside another object", x.many(2), 2160);
+        DUE.is("many(2) of the other one", other.many(2), 112);
+        DUE.is("table beside another object", x.table(0, 0), 239);
+        DUE.is("table of the other one", other.table(0, 0), 15);
+        DUE.parts("beside another object", x, 0);
+        DUE.is("order beside another object", x.count(0), 1);
+        DUE.is("kept beside another object", x.count(3), 0);
+        DUE.is("the tape beside another object", x.back(0), 0);
+        DUE.is("the tape of the other one", other.work(1), 1);
+        DUE.parts("the other one", other, 1, 2, 0, 0, 2);
     }
 
     private static void put() {

@@ -14,6 +14,7 @@ public final class ListsBoundsTest {
         listedPartRefused();
         placeOfTheFirstAndTheLast();
         placeOfOthers();
+        placeBeyondTheEnds();
         divisorsRefused();
         divisorsOfWhatIsNotWhole();
         divisorsOfGreatOnes();
@@ -99,6 +100,24 @@ public final class ListsBoundsTest {
         held.leaves("a norm of 3, not WHOLE", -2, x -> x.place(6));
         UNITS.eighth("place's slot", NONE, (x, v) -> x.place(v));
         held.leaves("NONE ahead of -2", NONE, x -> x.place(8));
+    }
+
+    /** By these orders 3/2 and three of 1/2 aren't WHOLE, though their NORM is 3: all LISTED ones lie between. */
+    private static void placeBeyondTheEnds() {
+        for (int order : new int[] {0, 4, 5, 6, 7}) {
+            Stage held = inOrder(order).lay(0, 3, 1, 1, 1).lay(1, -3, -1, -1, -1);
+            held.leaves("beyond the last of order " + order, -2, x -> x.place(0));
+            held.leaves("ahead of the first of order " + order, -2, x -> x.place(1));
+        }
+        EightParts x = new EightParts();
+        Due.lay(x, 0, 3, 1, 1, 1);
+        DUE.is("the last one, by order 1", x.place(0), 6719);
+        x.order(0);
+        DUE.is("what was the last one, by order 0", x.place(0), -2);
+        x.order(3);
+        DUE.is("the last one again, by order 3", x.place(0), 6719);
+        x.order(7);
+        DUE.is("what was the last one, by order 7", x.place(0), -2);
     }
 
     private static void divisorsRefused() {
